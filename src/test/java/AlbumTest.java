@@ -135,6 +135,8 @@ public final class AlbumTest {
         Check.album(war, "abji");
         check.due("the second is turned", war.kinds(4), 1);
         check.due("swapped it is good", war.kinds(5), 2);
+        Check.album(war, "ef/ab");
+        check.due("the first is turned", war.kinds(4), 0);
         check.due("kinds(6)", war.kinds(6), StereoWar.OUTSIDE);
         check.due("kinds(-1)", war.kinds(-1), StereoWar.OUTSIDE);
         Check.album(war, "aabb/c");

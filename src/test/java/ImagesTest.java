@@ -68,6 +68,23 @@ public final class ImagesTest {
         check.due("column again", war.told(401), 30);
         check.due("place again", war.told(20), 50);
         check.due("image 0 is still not kept", war.restore(0), StereoWar.STATE);
+        restoreFirst();
+    }
+
+    private static void restoreFirst() {
+        StereoWar war = new StereoWar();
+        war.thing(0, 50, 1, 20);
+        war.take(0, 50, 0);
+        war.take(1, 51, 0);
+        war.image(0);
+        check.due("an image of what is there", war.told(2), 3);
+        war.leave(0);
+        war.burn(0);
+        war.retouch(1, 0, StereoWar.NONE);
+        check.due("restore(0)", war.restore(0), 1);
+        check.due("thing 0", war.told(10), 50);
+        check.due("picture 0", war.told(100), 30);
+        check.due("thing 0 in picture 1", war.told(200), 29);
     }
 
     // Promise 28

@@ -6,6 +6,7 @@ public final class MatchTest {
     public static void main(String[] args) {
         chain();
         triangles();
+        square();
         wholeSet();
         refused();
         eyes();
@@ -62,6 +63,18 @@ public final class MatchTest {
         rows(war, 31, 2, 2, 3, 0, 1, NONE);
         befriend(war, 4, 2, 4);
         rows(war, 31, 2, 1, 0, 4, NONE, 2);
+    }
+
+    // Promise 16: 0 and 1 are each good with 2 and with 3; the least has the least
+    private static void square() {
+        StereoWar war = blank(4);
+        befriend(war, 0, 2, 0);
+        befriend(war, 0, 3, 1);
+        befriend(war, 1, 2, 2);
+        befriend(war, 1, 3, 3);
+        rows(war, 15, 2, 2, 3, 0, 1);
+        check.due("of a part", war.match(7, 0), 2);
+        check.due("alone in a part", war.match(7, 1), NONE);
     }
 
     // Promise 16: ten that are all good with each other

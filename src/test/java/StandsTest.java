@@ -9,6 +9,10 @@ public final class StandsTest {
         forged();
         ahead();
         missing();
+        firstAndLast();
+        pinnedMinutes();
+        beyondTheLastStand();
+        beyondTheLastMinute();
         check.end();
     }
 
@@ -76,6 +80,9 @@ public final class StandsTest {
         war.retouch(0, 1, 45);
         check.due("each is from elsewhere", war.forged(0, 0), 2);
         check.due("two, least as bits", war.forged(0, 1), 3);
+        war.retouch(0, 2, 60);
+        check.due("each is from elsewhere, the third from the least stand", war.forged(0, 0), 2);
+        check.due("two, least as bits, from whatever stand", war.forged(0, 1), 3);
         war.retouch(0, 5, 3);
         check.due("one more that there is not", war.forged(0, 0), 3);
         check.due("with the one that there is not", war.forged(0, 1), 35);
@@ -84,6 +91,11 @@ public final class StandsTest {
         war.leave(2);
         check.due("all that are shown", war.forged(0, 1), 39);
         check.due("so many", war.forged(0, 0), 4);
+        for (int thing = 0; thing < 6; thing++) {
+            war.retouch(0, thing, 0);
+        }
+        check.due("all six", war.forged(0, 0), 6);
+        check.due("all six as bits", war.forged(0, 1), 63);
         check.due("what 2", war.forged(0, 2), StereoWar.OUTSIDE);
         check.due("what -1", war.forged(0, -1), StereoWar.OUTSIDE);
         check.due("no picture, ahead of outside", war.forged(1, 2), StereoWar.UNKNOWN);
@@ -148,6 +160,74 @@ public final class StandsTest {
         check.due("no picture", war.missing(1, 0, 3), StereoWar.UNKNOWN);
         check.due("what 3", war.missing(0, 0, 3), StereoWar.OUTSIDE);
         check.due("what -1", war.missing(0, 0, -1), StereoWar.OUTSIDE);
+    }
+
+    // Promises 17, 18 and 20 at the first and the last stand and minute
+    private static void firstAndLast() {
+        pinned(0, 0, 1);
+        pinned(99, 0, 1);
+        pinned(0, 99, -1);
+        pinned(99, 99, 1);
+    }
+
+    /** One stands and one walks past just before the camera; a third is at the border of the picture. */
+    private static void pinned(int stand, int minute, int pace) {
+        StereoWar war = new StereoWar();
+        int border = stand == 0 ? 60 : 0;
+        war.thing(0, stand, 0, 20);
+        war.thing(1, stand - pace * minute, pace, 20);
+        war.thing(2, stand == 0 ? 30 : 69, 0, 20);
+        war.take(0, stand, minute);
+        check.due("one stand", war.stood(0, -1), 1);
+        check.due("this stand", war.stood(0, 0), 100 * minute + stand);
+        check.due("true", war.forged(0, 0), 0);
+        missed(war, 0, 2, 1, border, border);
+    }
+
+    // Promise 19 in the first and the last minutes
+    private static void pinnedMinutes() {
+        StereoWar war = new StereoWar();
+        war.thing(0, 50, 0, 20);
+        war.thing(1, 0, 1, 20);
+        war.take(0, 25, 0);
+        war.take(1, 25, 1);
+        war.take(2, 75, 98);
+        war.take(3, 75, 99);
+        for (int picture = 0; picture < 4; picture++) {
+            for (int other = 0; other < 4; other++) {
+                int due = picture == other ? StereoWar.UNKNOWN : picture < other ? 1 : 2;
+                check.due("ahead(" + picture + ", " + other + ")", war.ahead(picture, other), due);
+            }
+        }
+    }
+
+    // Promises 17, 18 and 20: no camera is at stand 100
+    private static void beyondTheLastStand() {
+        StereoWar war = new StereoWar();
+        war.thing(0, 99, 0, 20);
+        war.thing(1, 98, 0, 20);
+        war.take(0, 99, 0);
+        war.retouch(0, 0, 29);
+        war.retouch(0, 1, 28);
+        check.due("as from 100", war.stood(0, -1), 0);
+        check.due("both are forged", war.forged(0, 1), 3);
+        missed(war, 0, 1, 0, NONE, NONE);
+    }
+
+    // Promises 17 to 20: no picture is taken in minute 100
+    private static void beyondTheLastMinute() {
+        StereoWar war = new StereoWar();
+        war.thing(0, 50, 0, 20);
+        war.thing(1, 0, 1, 20);
+        war.thing(2, 75, 0, 20);
+        war.take(0, 75, 99);
+        war.take(1, 75, 99);
+        check.due("the walker is a step farther", war.retouch(0, 1, 55), 54);
+        check.due("as in minute 100", war.stood(0, -1), 0);
+        check.due("ahead(0, 1)", war.ahead(0, 1), NONE);
+        check.due("ahead(1, 0)", war.ahead(1, 0), NONE);
+        check.due("the walker is forged", war.forged(0, 1), 2);
+        missed(war, 0, 2, 0, NONE, NONE);
     }
 
     private static void missed(StereoWar war, int picture, int thing, int many, int least, int greatest) {

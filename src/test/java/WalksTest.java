@@ -48,10 +48,24 @@ public final class WalksTest {
         check.due("minute 99: two", war.best(99, 1), 2);
         war.thing(1, 95, 9, 20);
         check.due("minute 99: the other is far", war.best(99, 1), 1);
+        bestAtTheBorders();
         check.due("minute 100", war.best(100, 0), StereoWar.OUTSIDE);
         check.due("minute -1", war.best(-1, 0), StereoWar.OUTSIDE);
         check.due("what 2", war.best(0, 2), StereoWar.OUTSIDE);
         check.due("what -1", war.best(0, -1), StereoWar.OUTSIDE);
+    }
+
+    private static void bestAtTheBorders() {
+        StereoWar war = new StereoWar();
+        war.thing(0, 0, -1, 1);
+        check.due("from stand 0 alone", war.best(1, 0), 0);
+        check.due("from stand 0 one", war.best(1, 1), 1);
+        war.thing(0, 99, 1, 1);
+        check.due("from stand 99 alone", war.best(1, 0), 99);
+        check.due("from stand 99 one", war.best(1, 1), 1);
+        war.thing(0, 98, 9, 5);
+        check.due("it would be from stand 100", war.best(1, 0), 0);
+        check.due("from no stand", war.best(1, 1), 0);
     }
 
     // Promise 25: seed 0 draws 74 (left 4, right 7), 5624 (4, 2), 28652 (2, 5) and 51790 (0, 9)
